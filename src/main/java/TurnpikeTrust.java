@@ -556,7 +556,7 @@ public final class TurnpikeTrust {
         }
     }
 
-    /** The tape, and the reading of acts from it: token by token, so that the first fault met is the first from the left. */
+    /** The tape, and the reading of acts from it: token by token, so that the first fault met is the leftmost. */
     private static final class Reader {
         static final int TAPE = 2_000;
         private static final int MOST_CLAUSES = 40;
@@ -860,7 +860,10 @@ public final class TurnpikeTrust {
         }
     }
 
-    /** A clause; its condition is steps of three: a fact's word, a relation and a number, or OR, AND, NOT behind what they join. */
+    /**
+     * A clause; its condition is steps of three places: a fact's word, a relation and a number; OR, AND and NOT stand
+     * behind what they join, so that no step needs to know of brackets.
+     */
     private static final class Clause {
         final int word;
         int manner = NONE;

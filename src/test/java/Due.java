@@ -38,13 +38,23 @@ final class Due {
         same(what, outcome(call), "throws.IllegalStateException");
     }
 
-    /** The answer of a call, or the very class that it throws: a machine's own exception is never due. */
+    /** The answer of a call, or the very class that it throws. */
     static String outcome(Call call) {
         try {
             return String.valueOf(call.answer());
         } catch (RuntimeException e) {
-            return "throws." + e.getClass().getSimpleName();
+            return "throws." + e.getClass().getSimpleName() + (isThrownByOwnWords(e) ? "" : " of the machine or the library");
         }
+    }
+
+    /** An exception of a list's own test is made in the library, one of the machine is of another class. */
+    private static boolean isThrownByOwnWords(RuntimeException e) {
+        StackTraceElement[] trace = e.getStackTrace();
+        boolean isOwnPlace = trace.length > 0
+                && (trace[0].getClassName().startsWith("TurnpikeTrust") || trace[0].getClassName().startsWith("Model"));
+        boolean isOwnClass = e.getClass() == IndexOutOfBoundsException.class
+                || e.getClass() == IllegalArgumentException.class || e.getClass() == IllegalStateException.class;
+        return isOwnPlace && isOwnClass;
     }
 
     static void feed(TurnpikeTrust trust, byte[] bytes) {

@@ -178,6 +178,10 @@ public final class PromisesTest {
         read(" Free;", -9, 1);
         read("fre;", -9, 0);
         read("frees;", -9, 0);
+        read("freez;", -9, 0);
+        read("{free;", -9, 0);
+        read("`free;", -9, 0);
+        read("toll 1:2;", -9, 6);
         read("free\t;", -9, 4);
         read("free;\0", -9, 5);
         read("free;\u00ff", -9, 5);
@@ -356,6 +360,8 @@ public final class PromisesTest {
         Due.is("not of brackets", tollBy("toll 5 if not (army or mail);", CART, 4, 1, 1), 0);
         Due.is("not not", tollBy("toll 5 if not not mail;", CART, 4, 1, 1), 5);
         Due.is("or of three", tollBy("toll 5 if army or church or mail;", CART, 4, 1, 1), 5);
+        Due.is("many wait at once", tollBy("toll 5 if farm or mail and (farm or mail and (farm or mail and not farm));", CART, 4, 1, 1), 5);
+        Due.is("many wait in vain", tollBy("toll 5 if farm or mail and (farm or mail and (farm or mail and farm));", CART, 4, 1, 1), 0);
         Due.is("and of three", tollBy("toll 5 if mail and church and army;", CART, 4, 1, 5), 0);
         TurnpikeTrust x = with("toll 1 if gate = 1 and not back; toll 2 if gate = 0 and back; toll 4 if day > 363;");
         x.traveller(CART, 4, 1, 0);
@@ -408,9 +414,9 @@ public final class PromisesTest {
         paid(x, 1, 5, 1);
         x.wait(1);
         paid(x, 0, 5, 1);
-        x = with("once all; toll 5;");
+        x = with("once all; toll 1;");
         x.traveller(CART, 4, 1, 0);
-        paid(x, 0, 5, 1);
+        paid(x, 0, 1, 1);
         paid(x, 1, 0, 0);
         paid(x, 0, 0, 0);
         x = with("once all; once; toll 5;");
@@ -487,6 +493,9 @@ public final class PromisesTest {
         Due.is("once by asked", x.asked(0, 0, 0), 0);
         Due.is("once elsewhere", x.asked(0, 0, 1), 5);
         Due.is("back by asked", x.asked(1, 0, 0), 9);
+        Due.is("a third act", Due.act(x, "once all; times 9/1;", 50), 2);
+        Due.is("which asks for nothing", x.asked(2, 0, 0), 0);
+        Due.is("and leaves nothing to the next", x.asked(1, 0, 0), 9);
     }
 
     private static void promise11Force() {
@@ -906,6 +915,7 @@ public final class PromisesTest {
         partingOf(7, new int[] {5, 5, 5, 5}, new int[] {0, 0, 0, 0}, new long[] {2, 2, 2, 1});
         // Two ranks, the second one lacking: 11 to rank 1, then 9 by 7 and 8: 4 3/15, 4 12/15.
         partingOf(20, new int[] {7, 11, 8}, new int[] {2, 1, 2}, new long[] {4, 11, 5});
+        partingOf(1, new int[] {1, 1}, new int[] {3, 3}, new long[] {1, 0});
         partingOf(0, new int[] {5, 5}, new int[] {0, 1}, new long[] {0, 0});
         TurnpikeTrust x = new TurnpikeTrust();
         x.stretch(1);
@@ -963,6 +973,11 @@ public final class PromisesTest {
         TurnpikeTrust x = new TurnpikeTrust();
         Due.argument("day -1", () -> x.box(-1));
         Due.argument("day 10000", () -> x.box(10_000));
+        TurnpikeTrust y = with("toll 1;");
+        y.traveller(CART, 4, 1, 0);
+        y.pass(0, 0);
+        y.wait(2);
+        Due.is("by one line", y.box(1), 1);
         x.wait(2);
         x.borrow(100, 0, 0);
         Due.is("ahead of all", x.box(1), 0);
@@ -1074,5 +1089,13 @@ public final class PromisesTest {
         Due.is("last line of full use", x.journal(454 * 20, 3), -1);
         Due.is("box of full use", x.box(0), 10_000_000 - 454 * 20);
         Due.is("wear of full use", x.wear(0), 540_000 - 454 * 20 * 50);
+        // Later answers are free, but the machine itself must not throw in them either.
+        for (int i = 0; i < 500; i++) {
+            x.pass(0, 0);
+            x.mend(20);
+            x.box(0);
+            x.journal(x.count(7) - 1, 0);
+        }
+        Due.is("passes behind full use", x.gateTold(0, 6), 554);
     }
 }
