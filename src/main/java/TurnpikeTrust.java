@@ -622,7 +622,7 @@ public final class TurnpikeTrust {
             if (!readWhat(made) || !readIf() || !readSign(';')) {
                 return false;
             }
-            made.steps = Arrays.copyOf(steps, stepsUsed);
+            made.steps = Arrays.copyOf(steps, Math.max(stepsUsed, 0));
             read.clauses.add(made);
             return true;
         }
@@ -888,7 +888,7 @@ public final class TurnpikeTrust {
                 } else if (steps[i] == OR) {
                     bits = (bits >> 1) | last;
                 } else if (steps[i] == AND) {
-                    bits = (bits >> 1) & (last - 2);
+                    bits = last == 1 ? bits >> 1 : bits >> 1 & ~1L;
                 } else {
                     bits = (bits << 1) | (isTrue(facts, steps[i], steps[i + 1], steps[i + 2]) ? 1 : 0);
                 }
