@@ -1,9 +1,10 @@
-import java.nio.charset.StandardCharsets;
-import java.util.Arrays;
+import java.util.function.Supplier;
+import java.util.function.ToLongFunction;
 
-/** What the tests share: asking for what is due, and telling a trust texts. */
+/** What the tests share: asking for what is due. */
 final class Due {
     private static int wrong = 0;
+    private static String test = "";
 
     private Due() {
     }
@@ -12,18 +13,29 @@ final class Due {
         long answer();
     }
 
+    /** What is asked from here on is told with the test's name. */
+    static void begin(String name) {
+        test = name.isEmpty() ? "" : name + ": ";
+    }
+
     static void is(String what, long got, long want) {
         if (got != want) {
-            wrong++;
-            System.out.println(what + " answered " + got + ", due is " + want);
+            same(what, String.valueOf(got), String.valueOf(want));
         }
     }
 
     static void same(String what, String got, String want) {
         if (!got.equals(want)) {
             wrong++;
-            System.out.println(what + " answered " + got + ", due is " + want);
+            System.out.println(test + what + " answered " + got + ", due is " + want);
         }
+    }
+
+    static void line(Trust x, int k, long day, long kind, long who, long sum) {
+        is("day of line " + k, x.journal(k, 0), day);
+        is("kind of line " + k, x.journal(k, 1), kind);
+        is("who of line " + k, x.journal(k, 2), who);
+        is("sum of line " + k, x.journal(k, 3), sum);
     }
 
     static void index(String what, Call call) {
@@ -57,21 +69,23 @@ final class Due {
         return isOwnPlace && isOwnClass;
     }
 
-    static void feed(TurnpikeTrust trust, byte[] bytes) {
-        for (int from = 0; from < bytes.length; from += 20) {
-            byte[] part = Arrays.copyOfRange(bytes, from, from + 20);
-            int[] fours = new int[5];
-            for (int i = 0; i < 20; i++) {
-                fours[i / 4] = fours[i / 4] << 8 | part[i] & 255;
-            }
-            trust.feed(fours[0], fours[1], fours[2], fours[3], fours[4]);
-        }
+    static void refusesIndex(String what, Supplier<Trust> made, ToLongFunction<Trust> call) {
+        leavesAll(what, made, "throws.IndexOutOfBoundsException", call);
     }
 
-    static int act(TurnpikeTrust trust, String text, int day) {
-        byte[] bytes = text.getBytes(StandardCharsets.ISO_8859_1);
-        feed(trust, bytes);
-        return trust.act(bytes.length, day);
+    static void refusesArgument(String what, Supplier<Trust> made, ToLongFunction<Trust> call) {
+        leavesAll(what, made, "throws.IllegalArgumentException", call);
+    }
+
+    static void refusesState(String what, Supplier<Trust> made, ToLongFunction<Trust> call) {
+        leavesAll(what, made, "throws.IllegalStateException", call);
+    }
+
+    /** A call's answer or exception, and that a trust of which it was asked is as one of which it was not. */
+    static void leavesAll(String what, Supplier<Trust> made, String outcome, ToLongFunction<Trust> call) {
+        Trust asked = made.get();
+        same(what, outcome(() -> call.applyAsLong(asked)), outcome);
+        same("what stands behind " + what, State.of(asked), State.of(made.get()));
     }
 
     static void end(String name) {

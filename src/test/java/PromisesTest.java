@@ -49,23 +49,22 @@ public final class PromisesTest {
         promise24Box();
         promise25Journal();
         promise26Count();
-        fullUse();
         Due.end("PromisesTest");
     }
 
     /** One stretch with two gates, on which an act is in force from day 0 on. */
-    private static TurnpikeTrust with(String text) {
-        TurnpikeTrust x = new TurnpikeTrust();
+    private static Trust with(String text) {
+        Trust x = new Trust();
         x.stretch(10);
         x.gate(0);
         x.gate(0);
-        Due.is("act " + text, Due.act(x, text, 0), 0);
+        Due.is("act " + text, x.tell(text, 0), 0);
         return x;
     }
 
     /** What a traveller would pay at gate 0 of one act alone. */
     private static int tollBy(String text, int kind, int wheels, int beasts, int bits) {
-        TurnpikeTrust x = with(text);
+        Trust x = with(text);
         x.traveller(kind, wheels, beasts, bits);
         int asked = x.asked(0, 0, 0);
         Due.is(text + ": pass is as asked", x.pass(0, 0), asked);
@@ -73,15 +72,15 @@ public final class PromisesTest {
     }
 
     private static void read(String text, int answer, int place) {
-        TurnpikeTrust x = new TurnpikeTrust();
-        Due.is("act [" + text + "]", Due.act(x, text, 0), answer);
+        Trust x = new Trust();
+        Due.is("act [" + text + "]", x.tell(text, 0), answer);
         Due.is("fault of [" + text + "]", x.fault(), place);
         Due.is("acts behind [" + text + "]", x.count(1), answer < 0 ? 0 : 1);
         Due.is("tape behind [" + text + "]", x.count(8), 0);
     }
 
     private static void promise01NewObject() {
-        TurnpikeTrust x = new TurnpikeTrust();
+        Trust x = new Trust();
         for (int what = 0; what <= 9; what++) {
             Due.is("count(" + what + ") of a new object", x.count(what), 0);
         }
@@ -97,13 +96,13 @@ public final class PromisesTest {
         Due.index("new wear", () -> x.wear(0));
         Due.index("new loan", () -> x.loan(0, 0));
         Due.index("new gate", () -> x.gateTold(0, 0));
-        TurnpikeTrust y = new TurnpikeTrust();
+        Trust y = new Trust();
         x.stretch(1);
         Due.is("another object is apart", y.count(2), 0);
     }
 
     private static void promise02Feed() {
-        TurnpikeTrust x = new TurnpikeTrust();
+        Trust x = new Trust();
         // "free;" behind twelve blanks, then blanks: the highest byte of each number comes first.
         Due.is("first feed", x.feed(0x20202020, 0x20202020, 0x0A202020, 0x66726565, 0x3B202020), 20);
         Due.is("what was fed is read", x.act(20, 0), 0);
@@ -114,7 +113,7 @@ public final class PromisesTest {
         Due.is("tape behind feed 101", x.count(8), 2_000);
         Due.is("bytes above 127 are no signs", x.act(2_000, 0), -9);
         Due.is("feed behind act", x.feed(0, 0, 0, 0, 0), 20);
-        TurnpikeTrust y = new TurnpikeTrust();
+        Trust y = new Trust();
         for (int i = 0; i < 100; i++) {
             y.feed(0x20202020, 0x20202020, 0x20202020, 0x20202020, 0x20202020);
         }
@@ -123,7 +122,7 @@ public final class PromisesTest {
     }
 
     private static void promise03Act() {
-        TurnpikeTrust x = new TurnpikeTrust();
+        Trust x = new Trust();
         Due.argument("act(1) of an empty tape", () -> x.act(1, 0));
         Due.argument("act(-1)", () -> x.act(-1, 0));
         Due.argument("act on day -1", () -> x.act(0, -1));
@@ -131,16 +130,16 @@ public final class PromisesTest {
         Due.argument("act(least, least)", () -> x.act(MIN, MIN));
         Due.argument("act(most, most)", () -> x.act(MAX, MAX));
         Due.is("an act of nothing", x.act(0, 9_999), 0);
-        Due.feed(x, "free;free;free;x".getBytes());
+        x.put("free;free;free;x");
         Due.argument("act(21) of 20", () -> x.act(21, 0));
         Due.is("a throw leaves the tape", x.count(8), 20);
         Due.is("the first bytes alone", x.act(15, 0), 1);
         Due.is("the tape is empty then", x.count(8), 0);
-        Due.is("a fault", Due.act(x, "free", 0), -9);
+        Due.is("a fault", x.tell("free", 0), -9);
         for (int i = 2; i < 12; i++) {
             Due.is("act " + i, x.act(0, i), i);
         }
-        Due.feed(x, "free;".getBytes());
+        x.put("free;");
         Due.argument("a 13th of a wrong day", () -> x.act(5, 10_000));
         Due.state("a 13th", () -> x.act(5, 0));
         Due.state("a 13th with a fault", () -> x.act(4, 0));
@@ -233,12 +232,12 @@ public final class PromisesTest {
         read("free;".repeat(40) + "once", -7, 200);
         read("free;".repeat(40) + "mail;", -9, 200);
         read("free;".repeat(39) + "toll 1000001;free;", -8, 200);
-        TurnpikeTrust x = new TurnpikeTrust();
-        Due.act(x, "free !", 0);
+        Trust x = new Trust();
+        x.tell("free !", 0);
         Due.is("fault stays", x.fault(), 5);
         Due.is("a good act", x.act(0, 0), 0);
         Due.is("fault of a good act", x.fault(), NONE);
-        Due.act(x, "!", 0);
+        x.tell("!", 0);
         Due.is("fault at the first byte", x.fault(), 0);
     }
 
@@ -258,7 +257,7 @@ public final class PromisesTest {
     }
 
     private static void promise05Stretch() {
-        TurnpikeTrust x = new TurnpikeTrust();
+        Trust x = new Trust();
         Due.argument("price 0", () -> x.stretch(0));
         Due.argument("price 10001", () -> x.stretch(10_001));
         Due.argument("price least", () -> x.stretch(MIN));
@@ -272,7 +271,7 @@ public final class PromisesTest {
     }
 
     private static void promise06Gate() {
-        TurnpikeTrust x = new TurnpikeTrust();
+        Trust x = new Trust();
         Due.index("gate on no stretch", () -> x.gate(0));
         x.stretch(1);
         x.stretch(1);
@@ -288,7 +287,7 @@ public final class PromisesTest {
     }
 
     private static void promise07Traveller() {
-        TurnpikeTrust x = new TurnpikeTrust();
+        Trust x = new Trust();
         int[][] wrong = {{-1, 0, 0, 0}, {7, 0, 0, 0}, {0, -1, 0, 0}, {0, 21, 0, 0}, {0, 0, -1, 0},
             {0, 0, 10_001, 0}, {0, 0, 0, -1}, {0, 0, 0, 16}, {MIN, MIN, MIN, MIN}, {MAX, MAX, MAX, MAX}};
         for (int[] w : wrong) {
@@ -305,7 +304,7 @@ public final class PromisesTest {
     }
 
     private static void promise08Pass() {
-        TurnpikeTrust x = with("free if kind = foot; toll 7;");
+        Trust x = with("free if kind = foot; toll 7;");
         x.traveller(CART, 4, 1, 0);
         x.traveller(FOOT, 0, 0, 0);
         Due.index("traveller 2", () -> x.pass(2, 0));
@@ -319,14 +318,14 @@ public final class PromisesTest {
         Due.is("passes of gate 0", x.gateTold(0, 6), 0);
         Due.is("box", x.box(0), 7);
         Due.is("a toll of 0 is not in the journal", x.count(7), 1);
-        TurnpikeTrust y = new TurnpikeTrust();
+        Trust y = new Trust();
         y.stretch(1);
         y.gate(0);
         y.traveller(HORSE, 0, 1, 0);
         Due.is("without an act", y.pass(0, 0), 0);
         Due.is("by none", y.clause(), NONE);
         Due.is("wear of a pass without an act", y.wear(0), 1);
-        Due.act(y, "toll 3;", 1);
+        y.tell("toll 3;", 1);
         Due.is("ahead of the act's day", y.pass(0, 0), 0);
         y.wait(1);
         Due.is("from its day on", y.pass(0, 0), 3);
@@ -363,7 +362,7 @@ public final class PromisesTest {
         Due.is("many wait at once", tollBy("toll 5 if farm or mail and (farm or mail and (farm or mail and not farm));", CART, 4, 1, 1), 5);
         Due.is("many wait in vain", tollBy("toll 5 if farm or mail and (farm or mail and (farm or mail and farm));", CART, 4, 1, 1), 0);
         Due.is("and of three", tollBy("toll 5 if mail and church and army;", CART, 4, 1, 5), 0);
-        TurnpikeTrust x = with("toll 1 if gate = 1 and not back; toll 2 if gate = 0 and back; toll 4 if day > 363;");
+        Trust x = with("toll 1 if gate = 1 and not back; toll 2 if gate = 0 and back; toll 4 if day > 363;");
         x.traveller(CART, 4, 1, 0);
         x.traveller(CART, 4, 1, 0);
         Due.is("gate 1", x.pass(0, 1), 1);
@@ -400,13 +399,13 @@ public final class PromisesTest {
         Due.is("free behind", tollBy("toll 6; free;", CART, 4, 0, 0), 6);
     }
 
-    private static void paid(TurnpikeTrust x, int gate, int toll, int clause) {
+    private static void paid(Trust x, int gate, int toll, int clause) {
         Due.is("toll at gate " + gate, x.pass(0, gate), toll);
         Due.is("clause at gate " + gate, x.clause(), clause);
     }
 
     private static void promise08Once() {
-        TurnpikeTrust x = with("once; toll 5;");
+        Trust x = with("once; toll 5;");
         x.traveller(CART, 4, 1, 0);
         paid(x, 0, 5, 1);
         paid(x, 0, 0, 0);
@@ -456,7 +455,7 @@ public final class PromisesTest {
     }
 
     private static void promise09Clause() {
-        TurnpikeTrust x = with("free if mail; times 2/1; toll 5 if farm;");
+        Trust x = with("free if mail; times 2/1; toll 5 if farm;");
         x.traveller(CART, 4, 1, 1);
         x.traveller(CART, 4, 1, 8);
         x.traveller(CART, 4, 1, 0);
@@ -474,8 +473,8 @@ public final class PromisesTest {
     }
 
     private static void promise10Asked() {
-        TurnpikeTrust x = with("once; toll 5;");
-        Due.is("a later act", Due.act(x, "toll 9 if back; toll 4;", 50), 1);
+        Trust x = with("once; toll 5;");
+        Due.is("a later act", x.tell("toll 9 if back; toll 4;", 50), 1);
         x.traveller(WAGON, 4, 1, 0);
         Due.index("act 2", () -> x.asked(2, 0, 0));
         Due.index("act -1", () -> x.asked(-1, 0, 0));
@@ -493,13 +492,13 @@ public final class PromisesTest {
         Due.is("once by asked", x.asked(0, 0, 0), 0);
         Due.is("once elsewhere", x.asked(0, 0, 1), 5);
         Due.is("back by asked", x.asked(1, 0, 0), 9);
-        Due.is("a third act", Due.act(x, "once all; times 9/1;", 50), 2);
+        Due.is("a third act", x.tell("once all; times 9/1;", 50), 2);
         Due.is("which asks for nothing", x.asked(2, 0, 0), 0);
         Due.is("and leaves nothing to the next", x.asked(1, 0, 0), 9);
     }
 
     private static void promise11Force() {
-        TurnpikeTrust x = new TurnpikeTrust();
+        Trust x = new Trust();
         Due.argument("day -1", () -> x.force(-1));
         Due.argument("day 10000", () -> x.force(10_000));
         x.act(0, 10);
@@ -520,7 +519,7 @@ public final class PromisesTest {
     }
 
     private static void promise12Wait() {
-        TurnpikeTrust x = new TurnpikeTrust();
+        Trust x = new Trust();
         Due.argument("wait -1", () -> x.wait(-1));
         Due.argument("wait 1001", () -> x.wait(1_001));
         Due.argument("wait most", () -> x.wait(MAX));
@@ -536,7 +535,7 @@ public final class PromisesTest {
         Due.argument("one more", () -> x.wait(1));
     }
 
-    private static String rain(TurnpikeTrust x, int days) {
+    private static String rain(Trust x, int days) {
         return Due.outcome(() -> {
             x.rain(days);
             return 0;
@@ -544,7 +543,7 @@ public final class PromisesTest {
     }
 
     private static void promise13Rain() {
-        TurnpikeTrust x = with("");
+        Trust x = with("");
         x.traveller(WAGON, 6, 1, 0);
         Due.same("rain -1", rain(x, -1), "throws.IllegalArgumentException");
         Due.same("rain 1001", rain(x, 1_001), "throws.IllegalArgumentException");
@@ -572,8 +571,8 @@ public final class PromisesTest {
     }
 
     /** Stretches of given prices and wear, and a box. */
-    private static TurnpikeTrust roads(int money, int... pricesAndWear) {
-        TurnpikeTrust x = new TurnpikeTrust();
+    private static Trust roads(int money, int... pricesAndWear) {
+        Trust x = new Trust();
         for (int i = 0; i < pricesAndWear.length; i += 2) {
             x.stretch(pricesAndWear[i]);
             x.gate(i / 2);
@@ -587,7 +586,7 @@ public final class PromisesTest {
     }
 
     private static void promise14Mend() {
-        TurnpikeTrust x = roads(1_000, 10, 120);
+        Trust x = roads(1_000, 10, 120);
         Due.argument("mend -1", () -> x.mend(-1));
         Due.argument("mend 21", () -> x.mend(21));
         Due.is("mend 0", x.mend(0), 0);
@@ -599,11 +598,11 @@ public final class PromisesTest {
         Due.is("nothing more", x.mend(20), 0);
         Due.is("box", x.box(0), 970);
         // 50/30 against 40/25: both are 1 when cut, but 5/3 is more than 8/5.
-        TurnpikeTrust y = roads(1_000, 25, 40, 30, 50);
+        Trust y = roads(1_000, 25, 40, 30, 50);
         Due.is("by the exact quotient", y.mend(1), 1);
         Due.is("the greater is mended", y.wear(1), 0);
         Due.is("the lesser is not", y.wear(0), 40);
-        TurnpikeTrust z = roads(1_000, 30, 50, 15, 25, 30, 500);
+        Trust z = roads(1_000, 30, 50, 15, 25, 30, 500);
         Due.is("alike ones", z.mend(1), 1);
         Due.is("the first of them", z.wear(0), 0);
         Due.is("alike again", z.mend(1), 1);
@@ -612,11 +611,11 @@ public final class PromisesTest {
         Due.is("its wear", z.wear(2), 400);
         Due.is("line of a load", z.journal(3, 2), 2);
         Due.is("one line each", z.count(7), 5);
-        TurnpikeTrust poor = roads(30, 20, 100, 3, 1);
+        Trust poor = roads(30, 20, 100, 3, 1);
         Due.is("as long as the box has it", poor.mend(20), 1);
         Due.is("it ends, though a cheap one is left", poor.wear(1), 1);
         Due.is("what the box has yet", poor.box(0), 10);
-        TurnpikeTrust dear = roads(10, 10, 60);
+        Trust dear = roads(10, 10, 60);
         Due.is("the box has just the price", dear.mend(20), 1);
         Due.is("no more in it", dear.box(0), 0);
         Due.is("an empty box", dear.mend(20), 0);
@@ -624,7 +623,7 @@ public final class PromisesTest {
     }
 
     private static void promise15Farmer() {
-        TurnpikeTrust x = new TurnpikeTrust();
+        Trust x = new Trust();
         Due.argument("money -1", () -> x.farmer(-1));
         Due.argument("money above", () -> x.farmer(1_000_000_001));
         for (int i = 0; i < 8; i++) {
@@ -637,7 +636,7 @@ public final class PromisesTest {
     }
 
     private static void promise16Bid() {
-        TurnpikeTrust x = with("");
+        Trust x = with("");
         x.farmer(0);
         Due.index("gate 2", () -> x.bid(2, 0, 1, 1));
         Due.index("gate -1", () -> x.bid(-1, 0, 0, 0));
@@ -662,7 +661,7 @@ public final class PromisesTest {
     }
 
     private static void promise17Let() {
-        TurnpikeTrust x = with("");
+        Trust x = with("");
         Due.index("gate 2", () -> x.let(2, 1));
         Due.index("gate -1 for 0", () -> x.let(-1, 0));
         Due.argument("0 quarters", () -> x.let(0, 0));
@@ -694,7 +693,7 @@ public final class PromisesTest {
     }
 
     private static void promise17Lease() {
-        TurnpikeTrust x = with("toll 5;");
+        Trust x = with("toll 5;");
         x.traveller(CART, 4, 1, 0);
         x.farmer(1_000);
         x.bid(0, 0, 100, 200);
@@ -719,7 +718,7 @@ public final class PromisesTest {
         Due.is("three rents", x.box(9_999), 305);
         x.pass(0, 0);
         Due.is("the box's toll again", x.box(9_999), 310);
-        TurnpikeTrust y = with("");
+        Trust y = with("");
         y.farmer(50);
         y.bid(0, 0, 20, 25);
         y.bid(1, 0, 2, 2);
@@ -739,7 +738,7 @@ public final class PromisesTest {
         y.wait(91);
         Due.is("over again", y.money(0), 2);
         // The surety of gate 0 comes back in time for the rent of gate 1, not the other way round.
-        TurnpikeTrust z = with("");
+        Trust z = with("");
         z.farmer(60);
         z.bid(0, 0, 10, 20);
         z.bid(1, 0, 15, 15);
@@ -752,7 +751,7 @@ public final class PromisesTest {
     }
 
     private static void promise18GateTold() {
-        TurnpikeTrust x = with("");
+        Trust x = with("");
         x.farmer(0);
         x.farmer(1_000);
         x.traveller(FOOT, 0, 0, 0);
@@ -784,7 +783,7 @@ public final class PromisesTest {
     }
 
     private static void promise19Borrow() {
-        TurnpikeTrust x = new TurnpikeTrust();
+        Trust x = new Trust();
         int[][] wrong = {{0, 0, 0}, {10_000_001, 0, 0}, {1, -1, 0}, {1, 501, 0}, {1, 0, -1}, {1, 0, 4}, {MIN, MIN, MIN}};
         for (int[] w : wrong) {
             Due.argument("a wrong loan", () -> x.borrow(w[0], w[1], w[2]));
@@ -803,7 +802,7 @@ public final class PromisesTest {
     }
 
     private static void promise20Repay() {
-        TurnpikeTrust x = roads(1_000, 700, 50);
+        Trust x = roads(1_000, 700, 50);
         x.borrow(500, 10, 0);
         Due.index("loan 2", () -> x.repay(2, 1));
         Due.index("loan -1 of 0", () -> x.repay(-1, 0));
@@ -819,7 +818,7 @@ public final class PromisesTest {
         Due.is("all of the box", x.repay(0, 700), 300);
         Due.is("an empty box", x.repay(1, 1), NONE);
         Due.is("box is empty", x.box(0), 0);
-        TurnpikeTrust y = new TurnpikeTrust();
+        Trust y = new Trust();
         y.borrow(100, 500, 2);
         Due.is("all of it", y.repay(0, 100), 0);
         Due.is("no sum is left", y.loan(0, 0), 0);
@@ -831,7 +830,7 @@ public final class PromisesTest {
     }
 
     private static void promise21Loan() {
-        TurnpikeTrust x = roads(7, 7, 1);
+        Trust x = roads(7, 7, 1);
         x.mend(1);
         x.borrow(1_999, 100, 3);
         Due.index("loan 2", () -> x.loan(2, 0));
@@ -863,7 +862,7 @@ public final class PromisesTest {
     }
 
     private static void partingOf(int box, int[] sums, int[] ranks, long[] paid) {
-        TurnpikeTrust x = new TurnpikeTrust();
+        Trust x = new Trust();
         x.stretch(1);
         x.gate(0);
         int all = 0;
@@ -917,7 +916,7 @@ public final class PromisesTest {
         partingOf(20, new int[] {7, 11, 8}, new int[] {2, 1, 2}, new long[] {4, 11, 5});
         partingOf(1, new int[] {1, 1}, new int[] {3, 3}, new long[] {1, 0});
         partingOf(0, new int[] {5, 5}, new int[] {0, 1}, new long[] {0, 0});
-        TurnpikeTrust x = new TurnpikeTrust();
+        Trust x = new Trust();
         x.stretch(1);
         x.gate(0);
         x.farmer(100_000);
@@ -935,7 +934,7 @@ public final class PromisesTest {
     }
 
     private static void promise22Money() {
-        TurnpikeTrust x = with("toll 1000000;");
+        Trust x = with("toll 1000000;");
         x.farmer(5);
         x.farmer(1_000_000_000);
         x.traveller(COACH, 4, 4, 0);
@@ -955,7 +954,7 @@ public final class PromisesTest {
             {WAGON, 0, 9, 20}, {HORSE, 0, 9, 1}, {CATTLE, 0, 9, 9}, {CATTLE, 20, 0, 0}, {SHEEP, 0, 9, 2},
             {SHEEP, 4, 3, 0}, {SHEEP, 0, 10_000, 2_500}, {FOOT, 0, 9, 0}};
         for (int[] d : due) {
-            TurnpikeTrust x = with("");
+            Trust x = with("");
             x.stretch(1);
             x.traveller(d[0], d[1], d[2], 0);
             x.pass(0, 1);
@@ -970,10 +969,10 @@ public final class PromisesTest {
     }
 
     private static void promise24Box() {
-        TurnpikeTrust x = new TurnpikeTrust();
+        Trust x = new Trust();
         Due.argument("day -1", () -> x.box(-1));
         Due.argument("day 10000", () -> x.box(10_000));
-        TurnpikeTrust y = with("toll 1;");
+        Trust y = with("toll 1;");
         y.traveller(CART, 4, 1, 0);
         y.pass(0, 0);
         y.wait(2);
@@ -995,20 +994,13 @@ public final class PromisesTest {
         }
     }
 
-    private static void line(TurnpikeTrust x, int k, long day, long kind, long who, long sum) {
-        Due.is("day of line " + k, x.journal(k, 0), day);
-        Due.is("kind of line " + k, x.journal(k, 1), kind);
-        Due.is("who of line " + k, x.journal(k, 2), who);
-        Due.is("sum of line " + k, x.journal(k, 3), sum);
-    }
-
     private static void promise25Journal() {
-        TurnpikeTrust x = new TurnpikeTrust();
+        Trust x = new Trust();
         x.stretch(1);
         x.stretch(3);
         x.gate(1);
         x.gate(1);
-        Due.act(x, "toll 8 if not farm;", 0);
+        x.tell("toll 8 if not farm;", 0);
         x.traveller(FOOT, 0, 0, 8);
         x.traveller(CART, 4, 1, 0);
         x.farmer(0);
@@ -1024,14 +1016,14 @@ public final class PromisesTest {
         x.mend(20);
         x.wait(91);
         x.wait(271);
-        line(x, 0, 0, 0, 1, 8);
-        line(x, 1, 3, 1, 1, 90);
-        line(x, 2, 3, 3, 0, 50);
-        line(x, 3, 3, 3, 1, 1_000);
-        line(x, 4, 3, 5, 1, -20);
-        line(x, 5, 3, 6, 1, -3);
-        line(x, 6, 94, 2, 1, 400);
-        line(x, 7, 365, 4, 1, -98);
+        Due.line(x, 0, 0, 0, 1, 8);
+        Due.line(x, 1, 3, 1, 1, 90);
+        Due.line(x, 2, 3, 3, 0, 50);
+        Due.line(x, 3, 3, 3, 1, 1_000);
+        Due.line(x, 4, 3, 5, 1, -20);
+        Due.line(x, 5, 3, 6, 1, -3);
+        Due.line(x, 6, 94, 2, 1, 400);
+        Due.line(x, 7, 365, 4, 1, -98);
         Due.is("lines", x.count(7), 8);
         Due.index("line 8", () -> x.journal(8, 0));
         Due.index("line -1 and what 4", () -> x.journal(-1, 4));
@@ -1040,7 +1032,7 @@ public final class PromisesTest {
     }
 
     private static void promise26Count() {
-        TurnpikeTrust x = new TurnpikeTrust();
+        Trust x = new Trust();
         x.wait(11);
         x.act(0, 0);
         for (int i = 0; i < 2; i++) {
@@ -1070,32 +1062,5 @@ public final class PromisesTest {
         Due.is("count 10", x.count(10), NONE);
         Due.is("count least", x.count(MIN), NONE);
         Due.is("count most", x.count(MAX), NONE);
-    }
-
-    /** The dearest use of 512 calls that the document lets be: every line of the journal is kept. */
-    private static void fullUse() {
-        TurnpikeTrust x = new TurnpikeTrust();
-        x.stretch(1);
-        x.gate(0);
-        x.traveller(CATTLE, 0, 10_000, 0);
-        x.borrow(10_000_000, 0, 0);
-        for (int i = 0; i < 54; i++) {
-            x.pass(0, 0);
-        }
-        for (int i = 0; i < 454; i++) {
-            Due.is("mend in full use", x.mend(20), 20);
-        }
-        Due.is("lines of full use", x.count(7), 454 * 20 + 1);
-        Due.is("last line of full use", x.journal(454 * 20, 3), -1);
-        Due.is("box of full use", x.box(0), 10_000_000 - 454 * 20);
-        Due.is("wear of full use", x.wear(0), 540_000 - 454 * 20 * 50);
-        // Later answers are free, but the machine itself must not throw in them either.
-        for (int i = 0; i < 500; i++) {
-            x.pass(0, 0);
-            x.mend(20);
-            x.box(0);
-            x.journal(x.count(7) - 1, 0);
-        }
-        Due.is("passes behind full use", x.gateTold(0, 6), 554);
     }
 }
