@@ -293,6 +293,20 @@ public final class LoansBoundariesTest {
         Due.is("box then", x.box(1_460), 20);
     }
 
+    private static void promise20WhatIsDueIsNoPartOfTheLoan() {
+        Supplier<Trust> made = () -> {
+            Trust x = owing(100, 500);
+            waits(x, 1_095);
+            x.borrow(1_000, 0, 0);
+            return x;
+        };
+        Due.is("due", made.get().loan(0, 3), 50);
+        for (int sum : new int[] {101, 150, 151}) {
+            Due.leavesAll("repay " + sum, made, "-1", x -> x.repay(0, sum));
+        }
+        Due.is("all of it", made.get().repay(0, 100), 0);
+    }
+
     // Promise 21.
 
     private static void promise21NoSuchLoan() {
@@ -454,6 +468,41 @@ public final class LoansBoundariesTest {
     private static void part5AsManyAreLeftAsMayBe() {
         parts(8, of(10, 10, 10, 10, 10, 10, 10, 10, 10), of(0, 0, 0, 0, 0, 0, 0, 0, 0), 1, 1, 1, 1, 1, 1, 1, 1, 0);
         parts(89, of(10, 10, 10, 10, 10, 10, 10, 10, 10), of(0, 0, 0, 0, 0, 0, 0, 0, 0), 10, 10, 10, 10, 10, 10, 10, 10, 9);
+    }
+
+    private static void part5TheLeastRests() {
+        parts(1, of(1, 1), of(0, 0), 1, 0);
+        parts(2, of(1, 1, 1), of(2, 2, 2), 1, 1, 0);
+        parts(2, of(1, 2), of(0, 0), 1, 1);
+    }
+
+    private static void part5AllTenLoansAreParted() {
+        partsOfTen(0, 0);
+        partsOfTen(1, 1);
+        partsOfTen(9, 9);
+        partsOfTen(10, 10);
+        partsOfTen(11, 10);
+    }
+
+    /** Ten loans with an interest of 1 a year each, and a box that tolls fill for the third year's end: the first ones get it. */
+    private static void partsOfTen(int box, int paid) {
+        Trust x = Made.road("toll " + box + ";");
+        for (int i = 0; i < 10; i++) {
+            x.borrow(2, 500, 1);
+        }
+        waits(x, 3 * 365 - 1);
+        Due.is("box behind two years", x.box(9_999), 0);
+        x.pass(0, 0);
+        int line = x.count(7);
+        x.wait(1);
+        for (int i = 0; i < 10; i++) {
+            Due.is("due of loan " + i + " of a box of " + box, x.loan(i, 3), i < paid ? 0 : 1);
+        }
+        for (int i = 0; i < paid; i++) {
+            Due.line(x, line + i, 3 * 365, 4, i, -1);
+        }
+        Due.is("lines of a box of " + box, x.count(7), line + paid);
+        Due.is("what is left of a box of " + box, x.box(3 * 365), box - paid);
     }
 
     private static void part5RankByRank() {
@@ -661,6 +710,78 @@ public final class LoansBoundariesTest {
         x.wait(1);
         Due.is("of day 0", x.box(0), 580_000_000);
         Due.is("of today", x.box(1), 580_000_000);
+    }
+
+    private static void promise24AllMoneyOfEightFarmers() {
+        Trust x = eightFarmersSpent();
+        Due.is("of today", x.box(9_999), 8_000_000_000L);
+        Due.is("of a day that is over", x.box(9_998), 8_000_000_000L);
+        for (int i = 0; i < 8; i++) {
+            Due.is("money " + i, x.money(i), 0);
+        }
+    }
+
+    private static void promise24ABoxAboveWhatAnIntHolds() {
+        Trust x = lettingEight();
+        for (int i = 0; i < 26; i++) {
+            x.wait(91);
+            Due.is("box behind rent " + i, x.box(x.count(0)), (i + 2) * 80_000_000L);
+        }
+        Due.is("of the day ahead of the last rent", x.box(26 * 91 - 1), 26 * 80_000_000L);
+    }
+
+    private static void promise20OfABoxAboveWhatAnIntHolds() {
+        Trust x = eightFarmersSpent();
+        x.borrow(300, 0, 0);
+        Due.is("repay", x.repay(0, 299), 1);
+        Due.is("box", x.box(9_999), 8_000_000_001L);
+    }
+
+    private static void promise14OfABoxAboveWhatAnIntHolds() {
+        Trust x = eightFarmersSpent();
+        x.pass(x.traveller(Made.CATTLE, 0, 60, 0), 0);
+        Due.is("loads", x.mend(3), 2);
+        Due.is("box", x.box(9_999), 7_999_999_980L);
+    }
+
+    private static void part5InterestOfABoxAboveWhatAnIntHolds() {
+        Trust x = lettingEight();
+        waits(x, 27 * 91);
+        x.borrow(1_000, 500, 2);
+        Due.is("box", x.box(2_457), 28 * 80_000_000L + 1_000);
+        x.wait(7 * 365 - 2_457);
+        Due.is("due", x.loan(0, 3), 0);
+        Due.is("box behind the interest", x.box(2_555), 29 * 80_000_000L + 1_000 - 500);
+    }
+
+    /** Eight farmers as rich as may be, each with a gate at the greatest rent, on day 0. */
+    private static Trust lettingEight() {
+        Trust x = new Trust();
+        x.stretch(10);
+        for (int i = 0; i < 8; i++) {
+            x.gate(0);
+            x.farmer(1_000_000_000);
+        }
+        letEight(x);
+        return x;
+    }
+
+    private static void letEight(Trust x) {
+        for (int i = 0; i < 8; i++) {
+            x.bid(i, i, 10_000_000, 10_000_000);
+            Due.is("let", x.let(i, 40), i);
+        }
+    }
+
+    /** The same on the last day, behind three leases: the last ones ended for lack of money, with the surety. */
+    private static Trust eightFarmersSpent() {
+        Trust x = lettingEight();
+        waits(x, 3_640);
+        letEight(x);
+        waits(x, 3_640);
+        letEight(x);
+        waits(x, 9_999 - 7_280);
+        return x;
     }
 
     // Promise 25 and the JOURNAL of part 5.
