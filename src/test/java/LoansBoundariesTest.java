@@ -432,6 +432,9 @@ public final class LoansBoundariesTest {
 
     private static void part5TheBoxIsEmpty() {
         parts(0, of(10, 20, 30), of(0, 1, 0), 0, 0, 0);
+        parts(0, of(1), of(0), 0);
+        parts(0, of(1, 1), of(2, 2), 0, 0);
+        parts(0, of(5_000_000), of(3), 0);
     }
 
     private static void part5TheBoxHasOne() {
@@ -453,6 +456,14 @@ public final class LoansBoundariesTest {
         parts(5, of(5, 4, 3), of(0, 0, 0), 2, 2, 1);
         // 11 by 15: 5 2/15, 2 14/15, 2 14/15: two are left.
         parts(11, of(7, 4, 4), of(0, 0, 0), 5, 3, 3);
+        // 3 by 5: 3/5, 3/5, 1 4/5: two are left, one of them for the one that gets most.
+        parts(3, of(1, 1, 3), of(0, 0, 0), 1, 0, 2);
+        // 2 by 6: 1 2/6, 2/6, 2/6: one is left, for the first of three that are alike, though it gets some already.
+        parts(2, of(4, 1, 1), of(0, 0, 0), 2, 0, 0);
+        // 4 by 7: 4/7, 2 6/7, 4/7: two are left.
+        parts(4, of(1, 5, 1), of(0, 0, 0), 1, 3, 0);
+        // 2 by 7: 2/7, 2/7, 1 3/7: one is left.
+        parts(2, of(1, 1, 5), of(0, 0, 0), 0, 0, 2);
     }
 
     private static void part5OfRestsAlikeTheFirst() {
